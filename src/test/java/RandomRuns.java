@@ -290,13 +290,16 @@ public final class RandomRuns {
             word(w, 1 << below(12) | 1 << below(12) | 1 << below(12));
         }
         for (int s = 0; goesOn(); s++) {
+            if (s % 6 == 0) {
+                sayDerived(stars);
+            }
             switch (below(8)) {
                 case 0: word(below(4), 1 << below(12) | (below(2) == 0 ? 0 : 1 << below(12))); break;
                 case 1: kind(below(12), USUAL[below(USUAL.length)]); break;
                 case 2: if (below(3) == 0) { hush(); } break;
                 default: say(below(4));
             }
-            int i = below(12);
+            int i = below(3) == 0 ? below(12) : 0;
             int logic = below(2);
             switch (below(6)) {
                 case 0: rowsOf(i, logic, number(1, 3)); break;
@@ -307,6 +310,21 @@ public final class RandomRuns {
         }
         rowsOf(0, 0, 4);
         rowsOf(0, 1, 4);
+    }
+
+    /** THE SENTENCE becomes one that can be READ as KIND 0, by its own KINDS or more. */
+    private void sayDerived(boolean stars) {
+        Derivation made = Derivation.of(number(1, 6), 1 + below(2), stars, below(2) == 0, dice);
+        if (!tellable(made) || made.row.size() > 4) {
+            return;
+        }
+        hush();
+        kind(0, made.goal);
+        for (int w = 0; w < made.row.size(); w++) {
+            kind(1 + w, made.row.get(w));
+            word(w, 1 << (1 + w) | 1 << below(12) | 1 << below(12));
+            say(w);
+        }
     }
 
     private int oddNumber(int to) {
