@@ -106,6 +106,20 @@ public final class KindEdges {
             due("rows, call " + call, x.rows(call % 12, call % 2, 1 + call % 3), 1 + call % 3 == 1 ? 4 : 0);
         }
         due("call 512 of rows", x.rows(11, 1, 1), 4);
+        // Other KINDS in every question.
+        x = new SlashKinds();
+        for (int turn = 0; turn < 102; turn++) {
+            int i = turn % 12;
+            long ahead = 'a' + turn % 8;
+            long behind = 'a' + turn / 8 % 8;
+            due("type, turn " + turn, x.type((long) '(' << 32 | ahead << 24 | '\\' << 16 | behind << 8 | ')', 5), 5);
+            due("read, turn " + turn, x.read(i), 2);
+            due("wipe, turn " + turn, x.wipe(), turn > 0 ? 1 : 0);
+            due("add, turn " + turn, x.add(i), 1);
+            due("is, turn " + turn, x.is(i, turn % 2), 1);
+        }
+        due("call 511 of many KINDS", x.proofs(5, 0), 1);
+        due("call 512 of many KINDS", x.is(6, 0), 0);
     }
 
     // "KINDS are told by a text (80 bytes at most"; type: "FULL".
@@ -457,6 +471,16 @@ public final class KindEdges {
         int last = nested(12).lastIndexOf('a');
         likeness(nested(12), nested(12).substring(0, last) + "b" + nested(12).substring(last + 1), 0, 0);
         likeness(nested(12), nested(12), 1, 1);
+        // What was read in between is no matter.
+        SlashKinds x = withKind("(a/b)");
+        Check.kind(x, 1, nested(12));
+        Check.kind(x, 2, "(a/b)");
+        due("the same text as two KINDS ago", x.alike(0, 2, 1), 1);
+        due("ALIKE two KINDS ago", x.alike(0, 2, 0), 1);
+        Check.kind(x, 3, "(((c\\d)/e)*f)");
+        Check.kind(x, 4, nested(12));
+        due("the same long text", x.alike(4, 1, 1), 1);
+        due("not the same text", x.alike(4, 2, 1), 0);
     }
 
     // type: "n (1 .. 8)", "how many it has".

@@ -37,6 +37,7 @@ public final class ListEdges {
         nearNone();
         fourWordsAtMost();
         hushTellsHowMany();
+        byFullOrByEmpty();
         kindsAndLogicsThatAreNone();
         readsWhatZeroOrOne();
         firstOfPlacesOfTheSentence();
@@ -560,6 +561,22 @@ public final class ListEdges {
         }
         x.say(0);
         due("none of those that were stand behind the one", x.reads(0, 0, 0), 1);
+    }
+
+    // "READ as a KIND by a LOGIC" (0 FULL, 1 EMPTY); so of FIRST READING, ROWS, NEAR.
+    private static void byFullOrByEmpty() {
+        SlashKinds x = withKinds("a", "(a/(b/b))", "(b\\b)", "c");
+        x.word(0, 1 << 1);
+        x.word(1, 1 << 2);
+        x.word(2, 1 << 3);
+        read(said(x, 0), 0, 0, 0, 0, NONE);
+        read(x, 0, 1, 1, 1, 1);
+        due("rows by FULL", x.rows(0, 0, 1), 0);
+        due("rows by EMPTY", x.rows(0, 1, 1), 1);
+        near(x, 0, 0, NONE, NONE);
+        near(x, 0, 1, 0, 0);
+        near(said(x, 2), 0, 0, NONE, NONE);
+        near(said(x, 2), 0, 1, 1, 0);
     }
 
     // reads, first, rows, near: "BAD" of a KIND, of a LOGIC.

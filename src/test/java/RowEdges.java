@@ -31,6 +31,7 @@ public final class RowEdges {
         firstPartIsNotEmpty();
         secondPartIsNotEmpty();
         eachPlaceAndChoiceCounts();
+        elevenRulesBehindOneAnother();
         modulusIsFarAbove();
         twelveAtomsTogetherAtMost();
         meaningsOfKindsWithoutStar();
@@ -376,6 +377,23 @@ public final class RowEdges {
         proofs(4, 14, "((a/a)*(a/a))", "(a/a)", "(a/a)", "(a/a)");
         // 1 * 5 + 2 * 2 + 5 * 1, and 14 + 14.
         proofs(14, 42, "((a/a)*(a/a))", "(a/a)", "(a/a)", "(a/a)", "(a/a)");
+    }
+
+    // The longest ways: eleven rules, each behind the other, for 12 ATOMS in one KIND, six brackets deep.
+    private static void elevenRulesBehindOneAnother() {
+        proofs(0, 42, "((((((a/f)/(e/f))/(d/e))/(c/d))/(b/c))/(a/b))");
+        proofs(0, 42, "((b\\a)\\((c\\b)\\((d\\c)\\((e\\d)\\((f\\e)\\(f\\a))))))");
+        String behind = "(a*(b*(c*(d*(e*f)))))";
+        String ahead = "(((((a*b)*c)*d)*e)*f)";
+        proofs(0, 1, "(" + ahead + "/" + behind + ")");
+        proofs(0, 1, "(" + ahead + "\\" + behind + ")");
+        proofs(1, 1, ahead, behind);
+        proofs(1, 1, behind, ahead);
+        meanings(0, 1, "((((((a/f)/(e/f))/(d/e))/(c/d))/(b/c))/(a/b))");
+        meanings(0, 1, "((b\\a)\\((c\\b)\\((d\\c)\\((e\\d)\\((f\\e)\\(f\\a))))))");
+        meanings(1, 1, "((((((a/g)/(f/g))/(e/f))/(d/e))/(c/d))/(b/c))", "(a/b)");
+        meanings(1, 1, "(a/(b/(c/(d/(e/(f/g))))))", "(a/(b/(c/(d/(e/(f/g))))))");
+        meanings(1, 1, "((((((g\\f)\\e)\\d)\\c)\\b)\\a)", "((((((g\\f)\\e)\\d)\\c)\\b)\\a)");
     }
 
     // "modulo 1000000007". No number comes so far: rules take away ten signs in an order of their own
