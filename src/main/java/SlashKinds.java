@@ -213,8 +213,7 @@ public final class SlashKinds {
             return BAD;
         }
         reader.open(kinds, sets, kinds[i], logic == 0);
-        int choice = reader.firstReading(sentence, sentenceLength);
-        return choice < 0 ? NONE : reader.kindNumberIn(sentence, sentenceLength, choice, k);
+        return reader.findReading(sentence, sentenceLength) ? reader.kindNumberAt(sentence, k) : NONE;
     }
 
     public int rows(int i, int logic, int length) {
@@ -858,8 +857,9 @@ public final class SlashKinds {
             return !starred && Kind.atomsOf(row, length) + goal.size <= MEANING_ATOMS;
         }
 
+        /** None at all of a row that may not be asked: the lists count such a choice as none. */
         int countOfMeanings(Kind[] row, int length, Kind goal, boolean full) {
-            if (!isBalanced(row, length, goal)) {
+            if (!allows(row, length, goal) || !isBalanced(row, length, goal)) {
                 return 0;
             }
             int goalNode = open(goal, full);
@@ -867,7 +867,7 @@ public final class SlashKinds {
         }
 
         int setOfHeads(Kind[] row, int length, Kind goal, boolean full) {
-            if (!isBalanced(row, length, goal)) {
+            if (!allows(row, length, goal) || !isBalanced(row, length, goal)) {
                 return 0;
             }
             int goalNode = open(goal, full);
@@ -976,12 +976,18 @@ public final class SlashKinds {
 
     /** Rows of WORDS, and the KINDS that can be chosen for them. */
     private static final class Reader {
+        private static final int CHOICES_MOST = 729;
+
         private final MeaningSearch search;
         private final Kind[] kinds = new Kind[KIND_COUNT];
         /** Of each WORD the numbers of its KINDS, the lowest first. */
         private final int[][] options = new int[WORD_COUNT][KINDS_OF_WORD];
         private final int[] optionCounts = new int[WORD_COUNT];
+        /** Of each place: which of its WORD's KINDS is chosen, and the KIND itself. */
+        private final int[] picks = new int[SENTENCE_MOST];
         private final Kind[] chosen = new Kind[SENTENCE_MOST];
+        /** Of each place the BALANCE of all that is chosen ahead of it. */
+        private final long[] balancesAhead = new long[SENTENCE_MOST + 1];
         private final int[] tried = new int[ROWS_LENGTH_MOST];
         private Kind goal;
         private boolean full = true;
@@ -1017,47 +1023,44 @@ public final class SlashKinds {
         }
 
         int countOfReadings(int[] words, int length) {
-            int choices = countOfChoices(words, length);
             int readings = 0;
-            for (int c = 0; c < choices; c++) {
-                readings += meaningsOfChoice(words, length, c) > 0 ? 1 : 0;
+            boolean more = chooseFirst(words, length);
+            for (int c = 0; more && c < CHOICES_MOST; c++) {
+                readings += isBalanced(length) && search.countOfMeanings(chosen, length, goal, full) > 0 ? 1 : 0;
+                more = chooseNext(words, length);
             }
             return readings;
         }
 
         int sumOfMeanings(int[] words, int length) {
-            int choices = countOfChoices(words, length);
             long sum = 0;
-            for (int c = 0; c < choices; c++) {
-                sum += meaningsOfChoice(words, length, c);
+            boolean more = chooseFirst(words, length);
+            for (int c = 0; more && c < CHOICES_MOST; c++) {
+                sum += isBalanced(length) ? search.countOfMeanings(chosen, length, goal, full) : 0;
+                more = chooseNext(words, length);
             }
             return (int) (sum % MODULUS);
         }
 
-        /** The number of the first choice that can be read; -1, if there is none. */
-        int firstReading(int[] words, int length) {
-            int choices = countOfChoices(words, length);
-            for (int c = 0; c < choices; c++) {
-                if (meaningsOfChoice(words, length, c) > 0) {
-                    return c;
+        /** Whether there is a choice that can be read: the first one stays chosen. */
+        boolean findReading(int[] words, int length) {
+            boolean more = chooseFirst(words, length);
+            for (int c = 0; more && c < CHOICES_MOST; c++) {
+                if (isBalanced(length) && search.countOfMeanings(chosen, length, goal, full) > 0) {
+                    return true;
                 }
+                more = chooseNext(words, length);
             }
-            return -1;
+            return false;
         }
 
-        int kindNumberIn(int[] words, int length, int choice, int k) {
-            int rest = choice;
-            for (int p = length - 1; p > k && p >= 0 && p < words.length; p--) {
-                int n = optionCounts[words[p] & (WORD_COUNT - 1)];
-                rest = n > 0 ? rest / n : 0;
-            }
-            if (k < 0 || k >= words.length) {
+        /** The number of the KIND that is chosen at a place. */
+        int kindNumberAt(int[] words, int place) {
+            if (place < 0 || place >= words.length || place >= picks.length) {
                 return NONE;
             }
-            int w = words[k] & (WORD_COUNT - 1);
-            int n = optionCounts[w];
-            int at = n > 0 ? rest % n : 0;
-            return at >= 0 && at < KINDS_OF_WORD ? options[w][at] : NONE;
+            int pick = picks[place];
+            return pick >= 0 && pick < KINDS_OF_WORD ? options[words[place] & (WORD_COUNT - 1)][pick] : NONE;
         }
 
         int countOfReadableRows(int length) {
@@ -1065,7 +1068,7 @@ public final class SlashKinds {
             int readable = 0;
             for (int r = 0; r < rows; r++) {
                 tryRow(r, length);
-                readable += firstReading(tried, length) >= 0 ? 1 : 0;
+                readable += findReading(tried, length) ? 1 : 0;
             }
             return readable;
         }
@@ -1076,7 +1079,7 @@ public final class SlashKinds {
             for (int changes = 0; changes <= length && changes <= ROWS_LENGTH_MOST; changes++) {
                 for (int r = 0; r < rows; r++) {
                     tryRow(r, length);
-                    if (changesOf(words, length) == changes && firstReading(tried, length) >= 0) {
+                    if (changesOf(words, length) == changes && findReading(tried, length)) {
                         return changes;
                     }
                 }
@@ -1088,27 +1091,44 @@ public final class SlashKinds {
             return k >= 0 && k < tried.length ? tried[k] : NONE;
         }
 
-        /** Choices are numbered as they are ordered: the first WORD's KIND weighs most. */
-        private int countOfChoices(int[] words, int length) {
-            int choices = 1;
-            for (int p = 0; p < length && p < words.length; p++) {
-                choices *= optionCounts[words[p] & (WORD_COUNT - 1)];
+        /** Every WORD is its KIND of the lowest number; false, if one may be nothing. */
+        private boolean chooseFirst(int[] words, int length) {
+            for (int p = 0; p < length && p < words.length && p < picks.length; p++) {
+                picks[p] = 0;
+                if (optionCounts[words[p] & (WORD_COUNT - 1)] == 0) {
+                    return false;
+                }
             }
-            return choices;
+            takeFrom(words, length, 0);
+            return true;
         }
 
-        private int meaningsOfChoice(int[] words, int length, int choice) {
-            for (int p = 0; p < length && p < chosen.length; p++) {
-                int i = kindNumberIn(words, length, choice, p);
-                if (i < 0 || i >= kinds.length) {
-                    return 0;
+        /** The choice behind this one, the last WORD's KIND counting on first; false, if there is none. */
+        private boolean chooseNext(int[] words, int length) {
+            for (int p = Math.min(length, picks.length) - 1; p >= 0 && p < words.length; p--) {
+                if (picks[p] + 1 < optionCounts[words[p] & (WORD_COUNT - 1)]) {
+                    picks[p]++;
+                    takeFrom(words, length, p);
+                    return true;
                 }
-                chosen[p] = kinds[i];
+                picks[p] = 0;
             }
-            if (!MeaningSearch.allows(chosen, length, goal)) {
-                return 0;
+            return false;
+        }
+
+        private void takeFrom(int[] words, int length, int from) {
+            for (int p = Math.max(from, 0); p < length && p < chosen.length; p++) {
+                int i = kindNumberAt(words, p);
+                if (i >= 0 && i < kinds.length) {
+                    chosen[p] = kinds[i];
+                }
+                balancesAhead[p + 1] = balancesAhead[p] + chosen[p].balances;
             }
-            return search.countOfMeanings(chosen, length, goal, full);
+        }
+
+        /** Most choices are not, and need no search. */
+        private boolean isBalanced(int length) {
+            return length >= 0 && length < balancesAhead.length && balancesAhead[length] == goal.balances;
         }
 
         private static int countOfRows(int length) {
