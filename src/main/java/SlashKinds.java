@@ -867,7 +867,7 @@ public final class SlashKinds {
         }
 
         int setOfHeads(Kind[] row, int length, Kind goal, boolean full) {
-            if (!allows(row, length, goal) || !isBalanced(row, length, goal)) {
+            if (!isBalanced(row, length, goal)) {
                 return 0;
             }
             int goalNode = open(goal, full);
